@@ -202,6 +202,14 @@ public final class BodiesTest {
         check.due("both have joined ones", desk.join(3, 0), 0);
         check.due("all four", desk.ofBody(0, 0), 4);
         check.due("two by themselves", desk.ofBody(0, 6), 2);
+        PlanetoidDesk lowest = desk(10, 0);
+        lowest.dot(0, 150, 0);
+        lowest.dot(2, 100, 0);
+        lowest.body(0);
+        lowest.body(1);
+        check.due("body 0 is the weaker", lowest.join(0, 1), 1);
+        check.due("body 0 is counted", lowest.ofBody(1, 6), 1);
+        check.due("body 0 is parted", lowest.part(1), 0);
     }
 
     private static void stronger() {
@@ -350,8 +358,9 @@ public final class BodiesTest {
     }
 
     private static void numberByNights() {
-        int[][] nights = {{0, 15, 29}, {0, 15, 30}, {0, 30, 30}, {0, 0, 30}, {969, 970, 999}};
-        boolean[] fits = {false, true, false, false, true};
+        int[][] nights = {{0, 15, 29}, {0, 15, 30}, {0, 30, 30}, {0, 0, 30}, {969, 970, 999}, {15, 0, 30}, {100, 110, 129},
+            {130, 101, 100}};
+        boolean[] fits = {false, true, false, false, true, true, false, true};
         for (int i = 0; i < nights.length; i++) {
             PlanetoidDesk desk = desk(nights[i]);
             for (int k = 0; k < 3; k++) {
