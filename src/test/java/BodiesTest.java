@@ -188,6 +188,7 @@ public final class BodiesTest {
         for (int no : new int[] {-1, 4, Integer.MIN_VALUE, Integer.MAX_VALUE}) {
             check.index("join " + no, () -> desk.join(no, 0));
             check.index("join of " + no, () -> desk.join(0, no));
+            check.index("neither is there", () -> desk.join(no, no));
         }
         check.state("a body and itself", () -> desk.join(1, 1));
         check.due("the stronger one", desk.join(2, 1), 1);

@@ -269,7 +269,7 @@ public final class OrbitsTest {
         desk.part(0);
         desk.part(0);
         desk.join(2, 1);
-        counts("of the two exact ones", desk, 1, 405);
+        counts("beginning with the exact one", desk, 1, 405);
     }
 
     /** A call does not count on what another one has looked for. */
