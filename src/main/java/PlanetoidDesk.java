@@ -491,7 +491,10 @@ public final class PlanetoidDesk {
         return bOf(course) * night + cOf(course) * (night * (night - 1) / 2);
     }
 
-    /** The places of a stretch as bits: bit k is the place k behind a base, the stretch begins at 'behind'. */
+    /**
+     * The places of a stretch as bits: bit k is the place k behind a base, the stretch begins at 'behind'.
+     * The bits of the first 19 places are right; no more are needed, as a look leaves no more places.
+     */
     private static long stretch(int behind, int width) {
         long bits = (1L << width) - 1;
         int ahead = PLACES - behind;
