@@ -13,6 +13,7 @@ public final class BodiesTest {
         unlink();
         join();
         stronger();
+        firstLookByJoinedOnes();
         joinByPlatesAndOrbits();
         part();
         number();
@@ -24,8 +25,8 @@ public final class BodiesTest {
     }
 
     /** Observatories of errors 0 and 2, a plate of each in each of the nights: 2i and 2i + 1 in night nights[i]. */
-    private static PlanetoidDesk desk(int... nights) {
-        PlanetoidDesk desk = new PlanetoidDesk();
+    private static Desk desk(int... nights) {
+        Desk desk = new Desk();
         desk.observatory(0);
         desk.observatory(2);
         for (int night : nights) {
@@ -36,7 +37,7 @@ public final class BodiesTest {
     }
 
     private static void body() {
-        PlanetoidDesk desk = desk(0);
+        Desk desk = desk(0);
         desk.dot(0, 0, 0);
         desk.dot(0, 9, 0);
         for (int dot : new int[] {-1, 2, Integer.MIN_VALUE, Integer.MAX_VALUE}) {
@@ -51,7 +52,7 @@ public final class BodiesTest {
     }
 
     private static void mostBodies() {
-        PlanetoidDesk desk = desk(0);
+        Desk desk = desk(0);
         for (int i = 0; i < 22; i++) {
             desk.dot(0, 100 * i, 0);
         }
@@ -66,7 +67,7 @@ public final class BodiesTest {
     }
 
     private static void link() {
-        PlanetoidDesk desk = desk(0, 10, 20);
+        Desk desk = desk(0, 10, 20);
         desk.dot(0, 100, 0);
         desk.dot(2, 150, 0);
         desk.dot(4, 200, 0);
@@ -89,7 +90,7 @@ public final class BodiesTest {
         check.due("the dot stays unlinked", desk.ofDot(3, 3), NONE);
         check.due("the looks stay", desk.ofBody(0, 0), 2);
         check.due("looks after the second link", desk.link(0, 2), 3);
-        PlanetoidDesk joined = desk(0, 10, 20);
+        Desk joined = desk(0, 10, 20);
         joined.dot(0, 100, 0);
         joined.dot(2, 150, 0);
         joined.dot(4, 200, 0);
@@ -102,7 +103,7 @@ public final class BodiesTest {
     }
 
     private static void linkByPlates() {
-        PlanetoidDesk desk = desk(0, 10);
+        Desk desk = desk(0, 10);
         desk.dot(0, 100, 0);
         desk.dot(0, 100, 0);
         desk.dot(1, 101, 0);
@@ -121,13 +122,13 @@ public final class BodiesTest {
     }
 
     private static void linkWithoutOrbits() {
-        PlanetoidDesk desk = desk(0, 1, 2);
+        Desk desk = desk(0, 1, 2);
         desk.dot(0, 100, 0);
         desk.dot(2, 400, 0);
         desk.dot(4, 400, 0);
         desk.body(0);
         check.state("too far in a night", () -> desk.link(0, 1));
-        PlanetoidDesk lost = desk(0, 1, 2);
+        Desk lost = desk(0, 1, 2);
         lost.dot(0, 390, 0);
         lost.dot(2, 420, 0);
         lost.dot(4, 450, 0);
@@ -147,7 +148,7 @@ public final class BodiesTest {
     }
 
     private static void unlink() {
-        PlanetoidDesk desk = desk(0, 10, 20);
+        Desk desk = desk(0, 10, 20);
         desk.dot(0, 100, 0);
         desk.dot(2, 150, 0);
         desk.dot(4, 200, 0);
@@ -180,7 +181,7 @@ public final class BodiesTest {
     }
 
     private static void join() {
-        PlanetoidDesk desk = desk(0, 10, 20, 30);
+        Desk desk = desk(0, 10, 20, 30);
         for (int i = 0; i < 4; i++) {
             desk.dot(2 * i, 100 + 50 * i, 0);
             desk.body(i);
@@ -203,7 +204,7 @@ public final class BodiesTest {
         check.due("both have joined ones", desk.join(3, 0), 0);
         check.due("all four", desk.ofBody(0, 0), 4);
         check.due("two by themselves", desk.ofBody(0, 6), 2);
-        PlanetoidDesk lowest = desk(10, 0);
+        Desk lowest = desk(10, 0);
         lowest.dot(0, 150, 0);
         lowest.dot(2, 100, 0);
         lowest.body(0);
@@ -214,7 +215,7 @@ public final class BodiesTest {
     }
 
     private static void stronger() {
-        PlanetoidDesk alike = desk(5, 5);
+        Desk alike = desk(5, 5);
         alike.dot(2, 100, 0);
         alike.dot(0, 100, 0);
         alike.body(1);
@@ -222,7 +223,7 @@ public final class BodiesTest {
         check.due("of alike nights the lower dot, not the lower body", alike.join(0, 1), 1);
         alike.part(1);
         check.due("whatever the order of the call", alike.join(1, 0), 1);
-        PlanetoidDesk desk = desk(0, 10, 20);
+        Desk desk = desk(0, 10, 20);
         desk.dot(4, 200, 0);
         desk.dot(2, 150, 0);
         desk.dot(0, 100, 0);
@@ -236,7 +237,7 @@ public final class BodiesTest {
     }
 
     private static void firstLookByJoinedOnes() {
-        PlanetoidDesk desk = desk(0, 10, 20, 30);
+        Desk desk = desk(0, 10, 20, 30);
         desk.dot(2, 150, 0);
         desk.dot(0, 100, 0);
         desk.dot(4, 200, 0);
@@ -257,7 +258,7 @@ public final class BodiesTest {
     }
 
     private static void joinByPlatesAndOrbits() {
-        PlanetoidDesk desk = desk(0, 10, 20, 30);
+        Desk desk = desk(0, 10, 20, 30);
         desk.dot(0, 100, 0);
         desk.dot(0, 100, 0);
         desk.dot(2, 150, 0);
@@ -274,7 +275,7 @@ public final class BodiesTest {
         check.state("no orbit fits all three", () -> desk.join(3, 0));
         check.due("nothing is joined by that", desk.ofBody(0, 6), 1);
         check.due("nor to it", desk.ofBody(3, 2), NONE);
-        PlanetoidDesk far = desk(0, 1);
+        Desk far = desk(0, 1);
         far.dot(0, 100, 0);
         far.dot(2, 141, 0);
         far.dot(3, 142, 0);
@@ -288,7 +289,7 @@ public final class BodiesTest {
     }
 
     private static void part() {
-        PlanetoidDesk desk = desk(0, 10, 20, 30, 40);
+        Desk desk = desk(0, 10, 20, 30, 40);
         for (int i = 0; i < 5; i++) {
             desk.dot(2 * i, 100 + 50 * i, 0);
             desk.body(i);
@@ -325,7 +326,7 @@ public final class BodiesTest {
     }
 
     private static void number() {
-        PlanetoidDesk desk = desk(0, 15, 30);
+        Desk desk = desk(0, 15, 30);
         desk.dot(0, 100, 0);
         desk.dot(2, 115, 0);
         desk.dot(4, 130, 0);
@@ -363,7 +364,7 @@ public final class BodiesTest {
             {130, 101, 100}};
         boolean[] fits = {false, true, false, false, true, true, false, true};
         for (int i = 0; i < nights.length; i++) {
-            PlanetoidDesk desk = desk(nights[i]);
+            Desk desk = desk(nights[i]);
             for (int k = 0; k < 3; k++) {
                 desk.dot(2 * k, 100, 0);
             }
@@ -378,7 +379,7 @@ public final class BodiesTest {
                 check.due("nights " + i, got, "throws IllegalStateException");
             }
         }
-        PlanetoidDesk joined = desk(0, 10, 40);
+        Desk joined = desk(0, 10, 40);
         for (int k = 0; k < 3; k++) {
             joined.dot(2 * k, 100, 0);
             joined.body(k);
@@ -394,7 +395,7 @@ public final class BodiesTest {
     }
 
     private static void numberedBodies() {
-        PlanetoidDesk desk = desk(0, 50, 100, 150, 200, 250, 300);
+        Desk desk = desk(0, 50, 100, 150, 200, 250, 300);
         for (int i = 0; i < 7; i++) {
             desk.dot(2 * i, 100, 0);
         }
@@ -421,7 +422,7 @@ public final class BodiesTest {
     }
 
     private static void ofBody() {
-        PlanetoidDesk desk = desk(10, 0, 20);
+        Desk desk = desk(10, 0, 20);
         desk.dot(0, 150, 0);
         desk.dot(3, 100, 0);
         desk.dot(4, 200, 0);
@@ -445,7 +446,7 @@ public final class BodiesTest {
         for (int what : new int[] {-1, 7, Integer.MIN_VALUE, Integer.MAX_VALUE}) {
             check.argument("what " + what, () -> desk.ofBody(0, what));
         }
-        PlanetoidDesk alike = desk(5, 5);
+        Desk alike = desk(5, 5);
         alike.dot(3, 100, 0);
         alike.dot(0, 100, 0);
         alike.body(1);
@@ -455,7 +456,7 @@ public final class BodiesTest {
     }
 
     private static void deepJoins() {
-        PlanetoidDesk desk = new PlanetoidDesk();
+        Desk desk = new Desk();
         desk.observatory(9);
         for (int i = 0; i < 21; i++) {
             desk.plate(0, 20 - i);

@@ -17,8 +17,8 @@ public final class FamiliesAndLightTest {
     }
 
     /** Nights 0, 1 and 30 tell an orbit, if there is no error. */
-    private static PlanetoidDesk numberDesk() {
-        PlanetoidDesk desk = new PlanetoidDesk();
+    private static Desk numberDesk() {
+        Desk desk = new Desk();
         desk.observatory(0);
         desk.plate(0, 0);
         desk.plate(0, 1);
@@ -26,21 +26,21 @@ public final class FamiliesAndLightTest {
         return desk;
     }
 
-    private static int withOrbit(PlanetoidDesk desk, int a, int b, int c) {
+    private static int withOrbit(Desk desk, int a, int b, int c) {
         int body = desk.body(desk.dot(0, a, 0));
         desk.link(body, desk.dot(1, Math.floorMod(a + b, 3600), 0));
         desk.link(body, desk.dot(2, Math.floorMod(a + 30 * b + 435 * c, 3600), 0));
         return body;
     }
 
-    private static void numberAll(PlanetoidDesk desk, int... bodies) {
+    private static void numberAll(Desk desk, int... bodies) {
         for (int i = 0; i < bodies.length; i++) {
             check.due("number of body " + bodies[i], desk.number(bodies[i]), i + 1);
         }
     }
 
     private static void families() {
-        PlanetoidDesk desk = numberDesk();
+        Desk desk = numberDesk();
         int[] b = {0, 6, 3, 20, 0, 40};
         int[] c = {0, 0, 0, 0, 1, 0};
         for (int i = 0; i < b.length; i++) {
@@ -64,7 +64,7 @@ public final class FamiliesAndLightTest {
     }
 
     private static void familyByNumbers() {
-        PlanetoidDesk desk = numberDesk();
+        Desk desk = numberDesk();
         for (int i = 0; i < 4; i++) {
             withOrbit(desk, 500 * i, i, 0);
         }
@@ -76,7 +76,7 @@ public final class FamiliesAndLightTest {
     }
 
     private static void properOrbitsStay() {
-        PlanetoidDesk desk = numberDesk();
+        Desk desk = numberDesk();
         withOrbit(desk, 100, 5, 0);
         withOrbit(desk, 900, 8, 0);
         numberAll(desk, 1, 0);
@@ -90,7 +90,7 @@ public final class FamiliesAndLightTest {
     }
 
     private static void extremes() {
-        PlanetoidDesk desk = numberDesk();
+        Desk desk = numberDesk();
         withOrbit(desk, 100, -40, -2);
         withOrbit(desk, 900, 40, 2);
         withOrbit(desk, 1900, 40, 0);
@@ -108,7 +108,7 @@ public final class FamiliesAndLightTest {
     }
 
     private static void longChain() {
-        PlanetoidDesk desk = numberDesk();
+        Desk desk = numberDesk();
         int[] b = {0, 19, 1, 18, 2, 17, 3, 16, 4, 15, 5, 14, 6, 13, 7, 12, 8, 11, 9, 10};
         for (int i = 0; i < 20; i++) {
             withOrbit(desk, 170 * i, b[i], 0);
@@ -124,7 +124,7 @@ public final class FamiliesAndLightTest {
     }
 
     private static void measures() {
-        PlanetoidDesk desk = numberDesk();
+        Desk desk = numberDesk();
         withOrbit(desk, 0, 0, 0);
         for (int measure : new int[] {-1, 91, Integer.MIN_VALUE, Integer.MAX_VALUE}) {
             check.argument("families by " + measure, () -> desk.families(measure));
@@ -138,8 +138,8 @@ public final class FamiliesAndLightTest {
     }
 
     /** A body that stands still, with a look in each of the nights. */
-    private static PlanetoidDesk lights(int[] nights, int[] lights) {
-        PlanetoidDesk desk = new PlanetoidDesk();
+    private static Desk lights(int[] nights, int[] lights) {
+        Desk desk = new Desk();
         desk.observatory(0);
         for (int i = 0; i < nights.length; i++) {
             desk.plate(0, nights[i]);
@@ -152,7 +152,7 @@ public final class FamiliesAndLightTest {
         return desk;
     }
 
-    private static void turnIs(String what, PlanetoidDesk desk, int turn, int fault) {
+    private static void turnIs(String what, Desk desk, int turn, int fault) {
         check.due("turn, " + what, desk.turn(0, false), turn);
         check.due("fault, " + what, desk.turn(0, true), fault);
     }
@@ -179,7 +179,7 @@ public final class FamiliesAndLightTest {
             byTwentyOne[i] = i % 21;
         }
         turnIs("twenty nights", lights(nights, byTwenty), 20, 0);
-        PlanetoidDesk desk = lights(nights, byTwentyOne);
+        Desk desk = lights(nights, byTwentyOne);
         int least = Integer.MAX_VALUE;
         int turn = 0;
         for (int p = 2; p <= 20; p++) {
@@ -202,7 +202,7 @@ public final class FamiliesAndLightTest {
     }
 
     private static void turnOfJoined() {
-        PlanetoidDesk desk = new PlanetoidDesk();
+        Desk desk = new Desk();
         desk.observatory(0);
         for (int i = 0; i < 5; i++) {
             desk.plate(0, i);

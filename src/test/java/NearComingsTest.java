@@ -14,8 +14,8 @@ public final class NearComingsTest {
         check.end("NearComingsTest");
     }
 
-    private static PlanetoidDesk desk(int error, int night, int place) {
-        PlanetoidDesk desk = new PlanetoidDesk();
+    private static Desk desk(int error, int night, int place) {
+        Desk desk = new Desk();
         desk.observatory(error);
         desk.plate(0, night);
         desk.dot(0, place, 0);
@@ -23,13 +23,13 @@ public final class NearComingsTest {
         return desk;
     }
 
-    private static void chance(PlanetoidDesk desk, int from, int nights, int above, int below) {
+    private static void chance(Desk desk, int from, int nights, int above, int below) {
         check.due("chance above, " + from + ", " + nights, desk.chance(0, from, nights, false), above);
         check.due("chance below, " + from + ", " + nights, desk.chance(0, from, nights, true), below);
     }
 
     private static void fromTheEarth() {
-        PlanetoidDesk desk = desk(0, 0, 0);
+        Desk desk = desk(0, 0, 0);
         chance(desk, 0, 1, 1, 1);
         chance(desk, 0, 2, 1, 1);
         chance(desk, 0, 60, 1, 1);
@@ -40,7 +40,7 @@ public final class NearComingsTest {
     }
 
     private static void severalA() {
-        PlanetoidDesk desk = desk(1, 0, 0);
+        Desk desk = desk(1, 0, 0);
         // -41 to 41 in night 1, though there are 1215 orbits.
         chance(desk, 1, 1, 5, 83);
         // The last nights that there are.
@@ -62,7 +62,7 @@ public final class NearComingsTest {
 
     /** In night 900 a step is b + 900c: with c -2 and 2 it is the same, round the circle. */
     private static void stepsAlikeByTheCircle() {
-        PlanetoidDesk desk = desk(0, 900, 1810);
+        Desk desk = desk(0, 900, 1810);
         chance(desk, 900, 1, 0, 1);
         chance(desk, 900, 2, 5, 324);
         // The step of night 901 parts them again.
@@ -77,14 +77,14 @@ public final class NearComingsTest {
         }
         chance(desk(0, 0, 1800), 0, 20, 0, 1);
         // In night 1 it is at 3 + b, the earth at 10: b is 5 to 9.
-        PlanetoidDesk desk = desk(0, 0, 3);
+        Desk desk = desk(0, 0, 3);
         chance(desk, 0, 1, 0, 1);
         check.due("near in the second night", desk.chance(0, 0, 2, false), 5);
         check.due("of all", desk.chance(0, 0, 2, true), 81);
     }
 
     private static void withoutOrbits() {
-        PlanetoidDesk desk = desk(0, 0, 399);
+        Desk desk = desk(0, 0, 399);
         desk.plate(0, 1);
         desk.dot(1, 439, 0);
         desk.link(0, 1);
@@ -95,7 +95,7 @@ public final class NearComingsTest {
     }
 
     private static void joined() {
-        PlanetoidDesk desk = desk(0, 0, 0);
+        Desk desk = desk(0, 0, 0);
         desk.plate(0, 1);
         desk.dot(1, 10, 0);
         desk.body(1);
@@ -108,7 +108,7 @@ public final class NearComingsTest {
     }
 
     private static void arguments() {
-        PlanetoidDesk desk = desk(0, 0, 0);
+        Desk desk = desk(0, 0, 0);
         for (int body : new int[] {-1, 1, Integer.MIN_VALUE, Integer.MAX_VALUE}) {
             check.index("chance of " + body, () -> desk.chance(body, 0, 1, false));
             check.index("the body comes first", () -> desk.chance(body, -1, 0, false));

@@ -21,8 +21,8 @@ public final class OrbitsTest {
         check.end("OrbitsTest");
     }
 
-    private static PlanetoidDesk desk(int error, int... nights) {
-        PlanetoidDesk desk = new PlanetoidDesk();
+    private static Desk desk(int error, int... nights) {
+        Desk desk = new Desk();
         desk.observatory(error);
         for (int night : nights) {
             desk.plate(0, night);
@@ -30,19 +30,19 @@ public final class OrbitsTest {
         return desk;
     }
 
-    private static void counts(String what, PlanetoidDesk desk, int body, int want) {
+    private static void counts(String what, Desk desk, int body, int want) {
         check.due("orbits, " + what, desk.orbits(body), want);
         check.due("orbitsAnew, " + what, desk.orbitsAnew(body), want);
     }
 
-    private static void orbitIs(PlanetoidDesk desk, int index, int a, int b, int c) {
+    private static void orbitIs(Desk desk, int index, int a, int b, int c) {
         check.due("a of orbit " + index, desk.orbit(0, index, 0), a);
         check.due("b of orbit " + index, desk.orbit(0, index, 1), b);
         check.due("c of orbit " + index, desk.orbit(0, index, 2), c);
     }
 
     private static void ofOneLook() {
-        PlanetoidDesk desk = desk(1, 0);
+        Desk desk = desk(1, 0);
         desk.dot(0, 500, 0);
         desk.body(0);
         counts("three places", desk, 0, 1215);
@@ -60,7 +60,7 @@ public final class OrbitsTest {
     }
 
     private static void roundTheCircle() {
-        PlanetoidDesk desk = desk(1, 0, 1);
+        Desk desk = desk(1, 0, 1);
         desk.dot(0, 0, 0);
         desk.body(0);
         orbitIs(desk, 0, 0, -40, -2);
@@ -78,7 +78,7 @@ public final class OrbitsTest {
     }
 
     private static void narrowed() {
-        PlanetoidDesk desk = desk(0, 0, 1, 2, 3);
+        Desk desk = desk(0, 0, 1, 2, 3);
         desk.dot(0, 1000, 0);
         desk.dot(1, 1040, 0);
         desk.dot(2, 1078, 0);
@@ -103,7 +103,7 @@ public final class OrbitsTest {
     }
 
     private static void lostByShifts() {
-        PlanetoidDesk desk = desk(0, 0, 1);
+        Desk desk = desk(0, 0, 1);
         desk.dot(0, 399, 0);
         desk.dot(1, 439, 0);
         desk.body(0);
@@ -122,25 +122,26 @@ public final class OrbitsTest {
     }
 
     private static void latestNight() {
-        PlanetoidDesk desk = desk(0, 999);
-        desk.dot(0, 0, 0);
-        desk.body(0);
-        counts("in night 999", desk, 0, 405);
+        Desk[] desks = new Desk[3];
+        for (int what = 0; what < 3; what++) {
+            desks[what] = desk(0, 999);
+            desks[what].dot(0, 0, 0);
+            desks[what].body(0);
+        }
+        counts("in night 999", desks[0], 0, 405);
         // 999 times 40 is 39960; 999 times 998 by 2 is 498501; a is 0 less both, or less 2 times it, round the circle.
-        check.due("the place of each", desk.spread(0, 999), 1);
-        check.due("it is 0", desk.where(0, 999, 0), 0);
-        int[] orbits = new int[3];
+        check.due("the place of each", desks[0].spread(0, 999), 1);
+        check.due("it is 0", desks[0].where(0, 999, 0), 0);
         for (int index = 0; index < 405; index++) {
-            for (int what = 0; what < 3; what++) {
-                orbits[what] = desk.orbit(0, index, what);
-            }
-            int place = Math.floorMod(orbits[0] + 999 * orbits[1] + 498501 * orbits[2], 3600);
-            check.due("the place of orbit " + index, place, 0);
+            int a = desks[0].orbit(0, index, 0);
+            int b = desks[1].orbit(0, index, 1);
+            int c = desks[2].orbit(0, index, 2);
+            check.due("the place of orbit " + index, Math.floorMod(a + 999 * b + 498501 * c, 3600), 0);
         }
     }
 
     private static void ofJoinedOnes() {
-        PlanetoidDesk desk = desk(0, 0, 1, 2);
+        Desk desk = desk(0, 0, 1, 2);
         desk.dot(0, 100, 0);
         desk.dot(1, 107, 0);
         desk.dot(2, 115, 0);
@@ -158,7 +159,7 @@ public final class OrbitsTest {
     }
 
     private static void orbitArguments() {
-        PlanetoidDesk desk = desk(0, 0);
+        Desk desk = desk(0, 0);
         desk.dot(0, 100, 0);
         desk.body(0);
         for (int body : NO_BODY) {
@@ -175,7 +176,7 @@ public final class OrbitsTest {
     }
 
     private static void spreadAndWhere() {
-        PlanetoidDesk desk = desk(0, 0);
+        Desk desk = desk(0, 0);
         desk.dot(0, 20, 0);
         desk.body(0);
         check.due("one place in its night", desk.spread(0, 0), 1);
@@ -204,7 +205,7 @@ public final class OrbitsTest {
     }
 
     private static void candidates() {
-        PlanetoidDesk desk = desk(0, 0, 1, 2, 3);
+        Desk desk = desk(0, 0, 1, 2, 3);
         desk.dot(0, 100, 0);
         desk.dot(1, 60, 0);
         desk.dot(1, 59, 0);
@@ -229,7 +230,7 @@ public final class OrbitsTest {
     }
 
     private static void candidatesByErrors() {
-        PlanetoidDesk desk = desk(3, 0, 1);
+        Desk desk = desk(3, 0, 1);
         desk.dot(0, 100, 0);
         desk.dot(1, 146, 0);
         desk.dot(1, 147, 0);
@@ -246,7 +247,7 @@ public final class OrbitsTest {
     }
 
     private static void unlikeErrors() {
-        PlanetoidDesk desk = new PlanetoidDesk();
+        Desk desk = new Desk();
         int[] errors = {9, 0, 4};
         for (int i = 0; i < 3; i++) {
             desk.observatory(errors[i]);
@@ -274,7 +275,7 @@ public final class OrbitsTest {
 
     /** A call does not count on what another one has looked for. */
     private static void eachCallByItself() {
-        PlanetoidDesk desk = desk(0, 0, 1, 2);
+        Desk desk = desk(0, 0, 1, 2);
         desk.dot(0, 100, 0);
         desk.dot(1, 105, 0);
         desk.dot(2, 2000, 0);
@@ -295,7 +296,7 @@ public final class OrbitsTest {
     }
 
     private static void candidatesOfOthers() {
-        PlanetoidDesk desk = desk(0, 0, 1, 2, 1);
+        Desk desk = desk(0, 0, 1, 2, 1);
         desk.dot(0, 100, 0);
         desk.dot(1, 105, 0);
         desk.dot(2, 110, 0);

@@ -17,7 +17,7 @@ public final class PlatesAndDotsTest {
     }
 
     private static void newObject() {
-        PlanetoidDesk desk = new PlanetoidDesk();
+        Desk desk = new Desk();
         check.index("no observatory at first", () -> desk.plate(0, 0));
         check.index("no plate at first", () -> desk.dot(0, 0, 0));
         check.index("no dot at first", () -> desk.ofDot(0, 0));
@@ -27,14 +27,14 @@ public final class PlatesAndDotsTest {
         for (int zone = 0; zone < 9; zone++) {
             check.due("no shift at first", desk.shift(zone, 0), 0);
         }
-        PlanetoidDesk other = new PlanetoidDesk();
+        Desk other = new Desk();
         desk.observatory(0);
         check.index("objects share nothing", () -> other.plate(0, 0));
         check.due("NONE", NONE, -1);
     }
 
     private static void observatory() {
-        PlanetoidDesk desk = new PlanetoidDesk();
+        Desk desk = new Desk();
         for (int error : new int[] {-1, 10, MIN, MAX}) {
             check.argument("observatory(" + error + ")", () -> desk.observatory(error));
         }
@@ -53,7 +53,7 @@ public final class PlatesAndDotsTest {
     }
 
     private static void plate() {
-        PlanetoidDesk desk = new PlanetoidDesk();
+        Desk desk = new Desk();
         desk.observatory(0);
         for (int observatory : new int[] {-1, 1, MIN, MAX}) {
             check.index("plate of observatory " + observatory, () -> desk.plate(observatory, 0));
@@ -73,7 +73,7 @@ public final class PlatesAndDotsTest {
     }
 
     private static void dot() {
-        PlanetoidDesk desk = new PlanetoidDesk();
+        Desk desk = new Desk();
         desk.observatory(0);
         desk.plate(0, 7);
         for (int plate : new int[] {-1, 1, MIN, MAX}) {
@@ -98,7 +98,7 @@ public final class PlatesAndDotsTest {
     }
 
     private static void shift() {
-        PlanetoidDesk desk = new PlanetoidDesk();
+        Desk desk = new Desk();
         for (int zone : new int[] {-1, 9, MIN, MAX}) {
             check.index("shift of zone " + zone, () -> desk.shift(zone, 0));
             check.index("the zone comes first", () -> desk.shift(zone, 10));
@@ -114,7 +114,7 @@ public final class PlatesAndDotsTest {
     }
 
     private static void linksAndJoinsStay() {
-        PlanetoidDesk desk = new PlanetoidDesk();
+        Desk desk = new Desk();
         desk.observatory(0);
         for (int i = 0; i < 3; i++) {
             desk.plate(0, i);
@@ -138,7 +138,7 @@ public final class PlatesAndDotsTest {
     }
 
     private static void ofDot() {
-        PlanetoidDesk desk = new PlanetoidDesk();
+        Desk desk = new Desk();
         desk.observatory(3);
         desk.plate(0, 0);
         desk.plate(0, 345);
@@ -172,7 +172,7 @@ public final class PlatesAndDotsTest {
     }
 
     private static void thrownCallsChangeNothing() {
-        PlanetoidDesk desk = new PlanetoidDesk();
+        Desk desk = new Desk();
         check.argument("no observatory", () -> desk.observatory(10));
         check.due("the first observatory", desk.observatory(1), 0);
         check.argument("no plate", () -> desk.plate(0, 1000));

@@ -12,7 +12,7 @@ public final class RandomRunsTest {
 
     private final Random random;
     private final int seed;
-    private final PlanetoidDesk desk = new PlanetoidDesk();
+    private final Desk desk = new Desk();
     private final Model model = new Model();
     private final int[][] worlds;
     private final int[] worldOfDot = new int[60];

@@ -12,9 +12,10 @@ import java.util.Set;
 public final class RoomTest {
     private static final int MOST_OBJECTS = 100;
     private static final int MOST_CELLS = 20000;
-    private static final int CALLS = 400;
-    /** The Java machine may make something of its own now and then, but not with every call. */
-    private static final long MOST_BYTES = 8L * CALLS;
+    private static final int DESKS = 16;
+    private static final int ROUNDS = 25;
+    /** The Java machine may make something of its own now and then, but not with every round of calls. */
+    private static final long MOST_BYTES = 8L * DESKS * ROUNDS;
     private static final Check check = new Check();
     private static int seen = 0;
 
@@ -53,7 +54,25 @@ public final class RoomTest {
     }
 
     private static void calls() {
-        PlanetoidDesk desk = new PlanetoidDesk();
+        Desk[] desks = new Desk[DESKS];
+        for (int i = 0; i < DESKS; i++) {
+            desks[i] = busyDesk();
+            askAll(desks[i], i);
+        }
+        com.sun.management.ThreadMXBean bean = (com.sun.management.ThreadMXBean) ManagementFactory.getThreadMXBean();
+        long thread = Thread.currentThread().getId();
+        bean.getThreadAllocatedBytes(thread);
+        long before = bean.getThreadAllocatedBytes(thread);
+        for (int i = 0; i < DESKS * ROUNDS; i++) {
+            askAll(desks[i % DESKS], i);
+        }
+        long made = bean.getThreadAllocatedBytes(thread) - before;
+        check.due("bytes made by calls few enough: " + made, made <= MOST_BYTES ? 1 : 0, 1);
+        check.due("answers were given", seen != 0 ? 1 : 0, 1);
+    }
+
+    private static Desk busyDesk() {
+        Desk desk = new Desk();
         desk.observatory(9);
         for (int i = 0; i < 30; i++) {
             desk.plate(0, i);
@@ -62,20 +81,10 @@ public final class RoomTest {
         }
         desk.body(0);
         desk.body(1);
-        askAll(desk, 0);
-        com.sun.management.ThreadMXBean bean = (com.sun.management.ThreadMXBean) ManagementFactory.getThreadMXBean();
-        long thread = Thread.currentThread().getId();
-        bean.getThreadAllocatedBytes(thread);
-        long before = bean.getThreadAllocatedBytes(thread);
-        for (int i = 0; i < CALLS; i++) {
-            askAll(desk, i);
-        }
-        long made = bean.getThreadAllocatedBytes(thread) - before;
-        check.due("bytes made by calls few enough: " + made, made <= MOST_BYTES ? 1 : 0, 1);
-        check.due("answers were given", seen != 0 ? 1 : 0, 1);
+        return desk;
     }
 
-    private static void askAll(PlanetoidDesk desk, int i) {
+    private static void askAll(Desk desk, int i) {
         int dot = 2 + i % 58;
         seen += desk.orbits(0) + desk.orbitsAnew(0) + desk.orbit(0, 0, 0) + desk.spread(0, i) + desk.where(0, i, 1);
         seen += desk.candidates(0) + desk.chance(0, i, 60, true) + desk.chance(0, i, 2, false);
