@@ -14,6 +14,7 @@ public final class ChanceBoundariesTest {
         pathsOfOneNight();
         pathsOfTwoNights();
         pathsOfThreeNights();
+        pathsAheadAndBehindTheLooks();
         lowestTerms();
         nothingByOne();
         nothingByNothing();
@@ -174,6 +175,39 @@ public final class ChanceBoundariesTest {
             }
         }
         return near;
+    }
+
+    /** In nights ahead of the looks, in theirs and behind them, by the words of the document alone. */
+    private static void pathsAheadAndBehindTheLooks() {
+        Desk desk = Desks.oneBody(0, 5, 50);
+        // In night 6 they are at 50, b and 5c, which is from 0 to 100; in night 4 at 50, less b and 4c; the earth is at 40.
+        paths("101 places a night behind", desk, 6, 1, 5, 101);
+        paths("97 places a night ahead", desk, 4, 1, 5, 97);
+        paths("one place in that night", desk, 5, 1, 1, 1);
+        asByTheModel(0, 5, 50);
+        asByTheModel(9, 900, 1805);
+        asByTheModel(2, 359, 3591);
+        asByTheModel(3, 2, 20, 61, 610);
+        asByTheModel(9, 998, 2785, 999, 2799);
+    }
+
+    private static void asByTheModel(int error, int... nightsAndPlaces) {
+        Desk desk = Desks.oneBody(error, nightsAndPlaces);
+        Model model = new Model();
+        model.observatory(error);
+        for (int i = 0; i < nightsAndPlaces.length / 2; i++) {
+            model.dot(model.plate(0, nightsAndPlaces[2 * i]), nightsAndPlaces[2 * i + 1], 0);
+        }
+        model.body(0);
+        for (int dot = 1; dot < nightsAndPlaces.length / 2; dot++) {
+            model.link(0, dot);
+        }
+        for (int from : new int[] {0, 1, 2, 3, 4, 5, 6, 300, 358, 359, 360, 361, 450, 899, 900, 901, 960, 990, 997}) {
+            for (int nights = 1; nights <= 3; nights++) {
+                chance("error " + error + " in night " + nightsAndPlaces[0], desk, from, nights,
+                    model.chance(0, from, nights, false), model.chance(0, from, nights, true));
+            }
+        }
     }
 
     /** "in lowest terms". */

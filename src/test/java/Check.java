@@ -4,11 +4,34 @@ final class Check {
         int answer();
     }
 
+    private static final long MOST_MILLISECONDS_OF_A_CALL = 60_000L;
+
+    private final Thread watch = new Thread(this::endWithoutAnswers);
     private int wrong = 0;
-    private int checked = 0;
+    private volatile int checked = 0;
+
+    Check() {
+        watch.setDaemon(true);
+        watch.start();
+    }
+
+    /** A call that does not end is a fault as well, and must not hold up the other tests for ever. */
+    private void endWithoutAnswers() {
+        int before = -1;
+        try {
+            while (before != checked) {
+                before = checked;
+                Thread.sleep(MOST_MILLISECONDS_OF_A_CALL);
+            }
+        } catch (InterruptedException e) {
+            return;
+        }
+        System.out.println("a call did not end, behind " + before + " answers");
+        Runtime.getRuntime().halt(1);
+    }
 
     void due(String what, int got, int want) {
-        checked++;
+        checked = checked + 1;
         if (got != want) {
             wrong++;
             System.out.println(what + " answered " + got + ", due is " + want);
@@ -16,7 +39,7 @@ final class Check {
     }
 
     void due(String what, String got, String want) {
-        checked++;
+        checked = checked + 1;
         if (!got.equals(want)) {
             wrong++;
             System.out.println(what + " answered " + got + ", due is " + want);
@@ -49,6 +72,7 @@ final class Check {
     }
 
     void end(String name) {
+        watch.interrupt();
         System.out.println(name + ": " + checked + " answers looked at, " + wrong + " not as due");
         if (wrong != 0) {
             System.exit(1);

@@ -215,6 +215,14 @@ public final class OrbitBoundariesTest {
     private static void candidatesFromNoneToAll() {
         Desk alone = Desks.oneBody(9, 0, 100);
         check.due("no dot but its own", alone.candidates(0), 0);
+        Desk later = Desks.seen(9);
+        later.plate(0, 0);
+        later.plate(0, 1);
+        later.dot(1, 0, 0);
+        later.body(0);
+        check.due("no dot on a plate that is empty", later.candidates(0), 0);
+        later.dot(0, 0, 0);
+        check.due("the first one on it", later.candidates(0), 1);
         Desk all = Desks.seen(9, 0, 100);
         all.plate(0, 0);
         for (int i = 0; i < 59; i++) {

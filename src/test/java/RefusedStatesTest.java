@@ -222,6 +222,16 @@ public final class RefusedStatesTest {
         refused("neither is free", with(make, desk -> desk.join(2, 3)), desk -> desk.join(1, 3));
         done("the host is free", make, desk -> desk.join(2, 0), 0);
         done("free again", with(make, desk -> desk.part(0)), desk -> desk.join(2, 1), 1);
+        Supplier<Desk> two = with(make, desk -> desk.join(0, 2));
+        refused("the one joined first is not joined anew by that", two, desk -> desk.join(0, 1));
+        refused("nor when told the other way round", two, desk -> desk.join(1, 0));
+        refused("nor with another one", two, desk -> desk.join(1, 3));
+        refused("nor with that which was joined later", two, desk -> desk.join(1, 2));
+        done("the latest one is freed", with(two, desk -> ignored(() -> desk.join(1, 0))), desk -> desk.part(0), 2);
+    }
+
+    private static int ignored(Check.Call refused) {
+        return Check.outcome(refused).length();
     }
 
     /** Body 0 has looks in the nights 0, 10 and 40, body 1 in 20, 30 and 60; they stand still at one place. */
