@@ -12,6 +12,7 @@ public final class EmptyAndFullDeskTest {
         platesAlone();
         dotsAlone();
         fullOfDots();
+        joinsAmidSixtyDots();
         fullOfBodies();
         fullOfNumbers();
         fullOfLooks();
@@ -117,6 +118,26 @@ public final class EmptyAndFullDeskTest {
         check.due("the last dot, shifted", desk.ofDot(59, 1), 0);
         desk.unlink(9, 29);
         check.due("the last dot of a body", desk.ofBody(9, 1), 2);
+    }
+
+    /** Behind the last one of 60 dots there is none that could be taken for a look of the first body on the first plate. */
+    private static void joinsAmidSixtyDots() {
+        Desk desk = Desks.seen(9);
+        desk.plate(0, 0);
+        desk.plate(0, 1);
+        for (int dot = 0; dot < 60; dot++) {
+            desk.dot(dot % 2, 100, 0);
+        }
+        desk.body(1);
+        desk.body(0);
+        check.due("the first body has looks on the second plate alone", desk.join(0, 1), 1);
+        check.due("parted", desk.part(1), 0);
+        check.due("the other way round", desk.join(1, 0), 1);
+        check.due("both plates are closed", desk.candidates(1), 0);
+        check.due("parted again", desk.part(1), 0);
+        check.due("the dots of the first plate", desk.candidates(0), 29);
+        check.due("one of them", desk.link(0, 58), 2);
+        check.state("a plate with looks of both", () -> desk.join(0, 1));
     }
 
     /** "at most 20". */
